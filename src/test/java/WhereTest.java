@@ -275,18 +275,14 @@ public final class WhereTest {
         x.floe(0, 35, 60);
         // Each wants to go now, but not both: 5 less is more than 1 less.
         pairs(x, 0, 1, 1, 6);
-        x.undo();
-        // Behind 2 MONTHS they have come together: by then each gets most, but for the one who waits 1 more.
-        x.sea(0);
-        Due.windAlways(x, 0, 0);
-        x.wind(0, 0, 1);
-        x.wind(1, 0, 1);
-        x.floe(3, 0, 60);
-        x.floe(0, 4, 60);
-        x.moves(0, 5);
-        x.moves(1, 3);
-        // FAR 2, 1, 0, 0 ..: gains 58, 58, 58, 57, 56, 55, less 5 if both go at once.
-        pairs(x, 0, 1, 1, 2, 6, 8, 12, 13);
+        FrozenIn y = new FrozenIn();
+        Due.windAlways(y, 0, 0);
+        y.wind(0, 0, 1);
+        y.wind(1, 0, 1);
+        y.floe(3, 5, 60);
+        y.floe(0, 3, 60);
+        // FAR 2, 1, 0, 0 ..: who goes alone gets 58, 58, 58, 57, 56, 55; 5 less if both go at once.
+        pairs(y, 0, 1, 1, 2, 6, 8, 12, 13);
     }
 
     private static void leaveRefused() {
