@@ -40,8 +40,8 @@ public final class FrozenIn {
     private final Sea now = new Sea();
     /** What is read comes in here first, so that a FAULT leaves all as it was. */
     private final Sea spare = new Sea();
+    /** Null where none was kept; made once, then used again. */
     private final Sea[] images = new Sea[IMAGES];
-    private final boolean[] kept = new boolean[IMAGES];
     private final Text text = new Text();
     private final long[] odds = new long[CELLS];
     private final long[] nextOdds = new long[CELLS];
@@ -54,9 +54,6 @@ public final class FrozenIn {
     private int fulls;
 
     public FrozenIn() {
-        for (int i = 0; i < IMAGES; i++) {
-            images[i] = new Sea();
-        }
     }
 
     // ---- a sea
@@ -103,7 +100,7 @@ public final class FrozenIn {
 
     public int clear() {
         int length = text.length;
-        text.length = 0;
+        text.empty();
         return length;
     }
 
@@ -371,8 +368,10 @@ public final class FrozenIn {
         if (!within(i, 0, IMAGES - 1)) {
             return refuseBad();
         }
+        if (images[i] == null) {
+            images[i] = new Sea();
+        }
         images[i].takeFrom(now);
-        kept[i] = true;
         return 1;
     }
 
@@ -380,7 +379,7 @@ public final class FrozenIn {
         if (!within(i, 0, IMAGES - 1)) {
             return refuseBad();
         }
-        if (!kept[i]) {
+        if (images[i] == null) {
             return refuseNo();
         }
         now.takeFrom(images[i]);
@@ -476,8 +475,8 @@ public final class FrozenIn {
         return Math.abs(a / SIDE - b / SIDE) + Math.abs(a % SIDE - b % SIDE);
     }
 
-    private static int dogMonths(int far) {
-        return (far + DOGS_FAR - 1) / DOGS_FAR;
+    private static int dogMonths(int cells) {
+        return (cells + DOGS_FAR - 1) / DOGS_FAR;
     }
 
     /** To be at THE POLE as soon as one can loses nothing: one may stay there as long as one likes. */
@@ -493,9 +492,9 @@ public final class FrozenIn {
     /** What each gets who goes alone; who goes in the same MONTH as the other gets less than this. */
     private void weighLeaving(int a, int b) {
         for (int i = 0; i < LEAVE_MONTHS; i++) {
-            int far = far(now.cellBehind(a, i), now.cellBehind(b, i));
-            gains[i] = now.foodBehind(b, i) - far;
-            gains[LEAVE_MONTHS + i] = now.foodBehind(a, i) - far;
+            int apart = far(now.cellBehind(a, i), now.cellBehind(b, i));
+            gains[i] = now.foodBehind(b, i) - apart;
+            gains[LEAVE_MONTHS + i] = now.foodBehind(a, i) - apart;
         }
     }
 
@@ -544,9 +543,8 @@ public final class FrozenIn {
         return greater;
     }
 
-    /** How the KINDS drift, each by the one that it stands under. */
+    /** How the KINDS drift, each by the one that it stands under; those not named here as PLAIN. */
     private static final class Drift {
-        private static final int PLAIN = 0;
         private static final int LEAD = 1;
         private static final int RING = 2;
         private static final int SHOAL = 3;
@@ -557,19 +555,22 @@ public final class FrozenIn {
         }
 
         static int wayOf(int kind, int m, int w) {
+            int ring = m % 2 == 1 ? (w + 1) % WAYS : w;
             switch (kind) {
-                case RING: return ringWay(m, w);
-                case BACK: return backWay(m, w);
+                case RING: return ring;
+                case BACK: return m % 3 == 0 ? (ring + 2) % WAYS : ring;
                 default: return w;
             }
         }
 
         static int cellsOf(int kind, int s, int c) {
+            int plain = s >= 1 ? 1 : 0;
+            int lead = s == 3 ? plain + 1 : plain;
             switch (kind) {
-                case LEAD: return leadCells(s);
-                case SHOAL: return shoalCells(s, c);
-                case SPLIT: return splitCells(s, c);
-                default: return plainCells(s);
+                case LEAD: return lead;
+                case SHOAL: return c <= 1 && s < 2 ? 0 : plain;
+                case SPLIT: return c >= 3 && lead > 0 ? lead - 1 : lead;
+                default: return plain;
             }
         }
 
@@ -589,31 +590,6 @@ public final class FrozenIn {
                 case 2: return SIDE * row + Math.max(0, column - cells);
                 default: return SIDE * Math.max(0, row - cells) + column;
             }
-        }
-
-        private static int ringWay(int m, int w) {
-            return m % 2 == 1 ? (w + 1) % WAYS : w;
-        }
-
-        private static int backWay(int m, int w) {
-            int ring = ringWay(m, w);
-            return m % 3 == 0 ? (ring + 2) % WAYS : ring;
-        }
-
-        private static int plainCells(int s) {
-            return s >= 1 ? 1 : 0;
-        }
-
-        private static int leadCells(int s) {
-            return s == 3 ? plainCells(s) + 1 : plainCells(s);
-        }
-
-        private static int shoalCells(int s, int c) {
-            return c <= 1 && s < 2 ? 0 : plainCells(s);
-        }
-
-        private static int splitCells(int s, int c) {
-            return c >= 3 ? Math.max(0, leadCells(s) - 1) : leadCells(s);
         }
     }
 
@@ -749,10 +725,10 @@ public final class FrozenIn {
         }
 
         int cellBehind(int f, int months) {
-            return cellBehind(kinds[f], cells[f], month, months);
+            return drifted(kinds[f], cells[f], month, months);
         }
 
-        private int cellBehind(int kind, int firstCell, int firstMonth, int months) {
+        private int drifted(int kind, int firstCell, int firstMonth, int months) {
             int cell = firstCell;
             for (int i = 0; i < months; i++) {
                 cell = nextCell(kind, cell, firstMonth + i);
@@ -790,7 +766,7 @@ public final class FrozenIn {
         boolean allFoundFrom(int cell) {
             for (int i = 0; i < founds; i++) {
                 int at = FOUND_SIZE * i;
-                if (cellBehind(foundRows[at], cell, 0, foundRows[at + 1]) != foundRows[at + 2]) {
+                if (drifted(foundRows[at], cell, 0, foundRows[at + 1]) != foundRows[at + 2]) {
                     return false;
                 }
             }
@@ -882,6 +858,10 @@ public final class FrozenIn {
         void add(int c) {
             bytes[length] = c;
             length++;
+        }
+
+        void empty() {
+            length = 0;
         }
 
         /** How many ITEMS; -10 less the FAULT, and what the sea holds then is worth nothing. */

@@ -19,6 +19,7 @@ public final class DriftTest {
         entered();
         enterRefused();
         nearestOnes();
+        nearestByMonths();
         nearestRefused();
         dogsAndBack();
         dogsRefused();
@@ -228,6 +229,22 @@ public final class DriftTest {
         // Both go a column ahead once a year; only behind the last month is one held by its edge.
         Due.same(17, "nearest(0, 2, 0)", x.nearest(0, 2, 0), 60);
         Due.same(17, "nearest(0, 2, 1)", x.nearest(0, 2, 1), 4);
+    }
+
+    /** Each drifts by the wind of the MONTH that it is. */
+    private static void nearestByMonths() {
+        FrozenIn x = new FrozenIn();
+        Due.windAlways(x, 0, 0);
+        x.wind(0, 0, 1);
+        x.floe(3, 1, 0);
+        x.floe(0, 0, 0);
+        Due.same(17, "nearest(0, 1, 0)", x.nearest(0, 1, 0), 1);
+        Due.same(17, "nearest(1, 0, 0)", x.nearest(1, 0, 0), 1);
+        Due.same(17, "nearest(0, 1, 1)", x.nearest(0, 1, 1), 0);
+        x.month(3);
+        x.moves(1, 0);
+        Due.same(17, "nearest(0, 1, 0) from MONTH 3 on", x.nearest(0, 1, 0), 10);
+        Due.same(17, "nearest(1, 0, 0) from MONTH 3 on", x.nearest(1, 0, 0), 10);
     }
 
     private static void nearestRefused() {

@@ -2,7 +2,9 @@ import java.io.IOException;
 import java.nio.charset.StandardCharsets;
 import java.nio.file.Files;
 import java.nio.file.Path;
+import java.util.HashMap;
 import java.util.List;
+import java.util.Map;
 import java.util.Set;
 import java.util.regex.Matcher;
 import java.util.regex.Pattern;
@@ -38,6 +40,7 @@ public final class LanguageTest {
         words(code);
         library(source, code);
         methodLengths(source.lines().toList());
+        callDepths(code);
         Due.holds("one class of the file", count(code, "(?m)^public final class FrozenIn \\{") == 1
                 && count(code, "(?m)^([a-z]+ )*(class|interface|enum|record) ") == 1);
         Due.end();
@@ -77,6 +80,33 @@ public final class LanguageTest {
         while (calls.find()) {
             Due.holds("call of " + calls.group(), LIBRARY.contains(calls.group()));
         }
+    }
+
+    /** By the names of the methods alone: those of one name count as one, and then none may call itself. */
+    private static void callDepths(String code) {
+        Matcher heads = Pattern.compile("(?m)^ {4,8}(?:[a-z]+ )*(?:int|long|boolean|void) (\\w+)\\([^)]*\\) \\{").matcher(code);
+        Map<String, String> bodies = new HashMap<>();
+        while (heads.find()) {
+            int end = code.indexOf("\n" + " ".repeat(heads.group().indexOf(heads.group().trim())) + "}", heads.end());
+            bodies.merge(heads.group(1), code.substring(heads.end(), end), String::concat);
+        }
+        Due.holds("methods are found", bodies.size() > 60);
+        for (String name : bodies.keySet()) {
+            int depth = depth(name, bodies, 1);
+            Due.holds(name + " calls eight deep at most, it was " + depth, depth <= 8);
+        }
+    }
+
+    private static int depth(String name, Map<String, String> bodies, int above) {
+        int deepest = above;
+        Matcher calls = Pattern.compile("(\\w+)\\(").matcher(bodies.getOrDefault(name, ""));
+        while (calls.find() && above <= 20) {
+            boolean isCall = bodies.containsKey(calls.group(1)) || LIBRARY.stream().anyMatch(one -> one.endsWith("." + calls.group(1)));
+            if (isCall) {
+                deepest = Math.max(deepest, depth(calls.group(1), bodies, above + 1));
+            }
+        }
+        return deepest;
     }
 
     private static void methodLengths(List<String> lines) {

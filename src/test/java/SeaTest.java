@@ -23,6 +23,7 @@ public final class SeaTest {
         readFaultsAtNumbers();
         readFaultsAtOtherBytes();
         readThatEndsTooEarly();
+        readEndsWhereTheTextEnds();
         readFaultChangesNothing();
         Due.end();
     }
@@ -359,6 +360,23 @@ public final class SeaTest {
         fault("sea 5;wind 1 2", 14);
         fault("sea 5;wind 1 2 3", 16);
         fault("sea 5;floe 1 2 ", 15);
+    }
+
+    /** What a longer text held before, and what would stand behind the last byte, is not read. */
+    private static void readEndsWhereTheTextEnds() {
+        FrozenIn x = new FrozenIn();
+        Due.same(7, "read()", Due.read(x, "sea 12;wind 1 2 3;"), 2);
+        Due.same(7, "read() of «sea 12»", Due.read(x, "sea 12"), -16);
+        Due.same(7, "read() of «sea 1»", Due.read(x, "sea 1"), -15);
+        Due.same(7, "read() of «se»", Due.read(x, "se"), -10);
+        Due.read(x, "sea 5;            ");
+        Due.same(7, "read() of «sea 5 »", Due.read(x, "sea 5 "), -16);
+        String[] ends = {"sea 5", "sea 5;wind", "sea 5;7", "sea", "sea 5;wind 1", ""};
+        int[] due = {-160, -160, -159, -160, -160, -160};
+        for (int i = 0; i < ends.length; i++) {
+            String text = " ".repeat(150 - ends[i].length()) + ends[i];
+            Due.same(7, "read() of 150 bytes that end with «" + ends[i] + "»", Due.read(x, text), due[i]);
+        }
     }
 
     private static void readFaultChangesNothing() {

@@ -6,6 +6,7 @@ public final class StateTest {
     public static void main(String[] args) {
         fraction();
         images();
+        imagesKeepTheirOwn();
         imagesOutliveSeas();
         imagesLeaveWhatIsNotTheirs();
         imagesRefused();
@@ -79,6 +80,49 @@ public final class StateTest {
         x.image(0);
         Due.same(29, "image(0) anew", x.from(0), 1);
         Due.same(29, "count(1)", x.count(1), 1);
+    }
+
+    /** What is told or undone behind an image does not come into it. */
+    private static void imagesKeepTheirOwn() {
+        FrozenIn x = sailing();
+        x.image(0);
+        long[] digests = new long[3];
+        for (int i = 0; i < 3; i++) {
+            digests[i] = x.digest();
+            x.undo();
+        }
+        x.forget(0);
+        x.forget(1);
+        x.found(5, 6, 7);
+        x.note(0, 9, 1, 1, 1, 1, 1);
+        x.moves(0, 33);
+        x.feed(0, 2);
+        x.month(7);
+        x.from(0);
+        for (int i = 0; i < 3; i++) {
+            Due.same(30, "digest() from the image, undone " + i, x.digest(), digests[i]);
+            x.undo();
+        }
+        FrozenIn y = new FrozenIn();
+        y.floe(0, 0, 0);
+        for (int i = 0; i < 4; i++) {
+            y.found(i, 1 + i, 35);
+        }
+        for (int i = 0; i < 6; i++) {
+            y.note(0, i, 3, 3, 5, 3, 2);
+        }
+        for (int i = 0; i < 8; i++) {
+            y.feed(0, 10);
+        }
+        long full = y.digest();
+        y.image(1);
+        y.sea(0);
+        y.from(1);
+        Due.same(30, "digest() from an image of all there can be", y.digest(), full);
+        for (int i = 7; i >= 0; i--) {
+            y.undo();
+            Due.same(30, "of(0, 2) undone from it", y.of(0, 2), 10 * i);
+        }
     }
 
     private static void imagesOutliveSeas() {

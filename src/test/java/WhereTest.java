@@ -16,8 +16,10 @@ public final class WhereTest {
         kindsRefused();
         waitsForWinds();
         waitsForMonths();
+        waitsByItsColumn();
         leaves();
         leavesByFoodAndMonth();
+        leavesTogether();
         leaveRefused();
         calms();
         calmsAtTheEnd();
@@ -248,6 +250,18 @@ public final class WhereTest {
         Due.same(24, "waits(0): calm, so they are alike", x.waits(0), 2);
     }
 
+    private static void waitsByItsColumn() {
+        FrozenIn x = new FrozenIn();
+        Due.windAlways(x, 0, 0);
+        x.wind(1, 0, 1);
+        x.wind(5, 0, 3);
+        // In MONTH 5 two are alike in column 0; in column 3 SPLIT goes as PLAIN and SHOAL: three, as in MONTH 1.
+        x.floe(0, 18, 0);
+        x.floe(0, 3, 0);
+        Due.same(24, "waits(0): row 3, column 0", x.waits(0), 5);
+        Due.same(24, "waits(1): row 0, column 3", x.waits(1), 1);
+    }
+
     private static void pairs(FrozenIn x, int a, int b, int... due) {
         Due.same(25, "leave(" + a + ", " + b + ", -1)", x.leave(a, b, FrozenIn.NONE), due.length);
         for (int k = 0; k < due.length; k++) {
@@ -285,6 +299,22 @@ public final class WhereTest {
         pairs(y, 0, 1, 1, 2, 6, 8, 12, 13);
     }
 
+    private static void leavesTogether() {
+        FrozenIn x = new FrozenIn();
+        Due.windAlways(x, 0, 0);
+        x.floe(0, 0, 1);
+        x.floe(0, 1, 1);
+        // Food is 0 at least: all MONTHS but the first are alike.
+        pairs(x, 0, 1, 1, 2, 3, 4, 5, 6, 12, 18, 24, 30);
+        FrozenIn y = new FrozenIn();
+        Due.windAlways(y, 0, 0);
+        y.wind(0, 0, 3);
+        y.floe(1, 2, 60);
+        y.floe(4, 2, 60);
+        // LEAD and BACK part by 3: a MONTH later each gets 4 less, which is more than 5 less.
+        pairs(y, 0, 1, 1, 6);
+    }
+
     private static void leaveRefused() {
         FrozenIn x = new FrozenIn();
         Due.same(25, "leave(0, 1, 0) of none", x.leave(0, 1, 0), -10);
@@ -317,6 +347,11 @@ public final class WhereTest {
         chance(x, 8, 5, 247, 256);
         chance(x, 8, 9, 18689527, 100000000);
         chance(x, 0, 5, 0, 1);
+        x.moves(0, 0);
+        chance(x, 5, 0, 1, 1);
+        chance(x, 6, 5, 7, 64);
+        x.moves(0, 30);
+        chance(x, 5, 5, 1, 32);
         x.moves(0, 5);
         chance(x, 0, 5, 1, 1);
         chance(x, 8, 5, 1, 1);
@@ -365,6 +400,7 @@ public final class WhereTest {
         for (int n = 0; n <= 5; n++) {
             Due.same(27, "years(0, " + n + ")", x.years(0, n), due[n]);
         }
+        Due.same(27, "years(999999, 0)", x.years(999999, 0), 1);
         long before = x.digest();
         x.years(999999, 60);
         Due.same(27, "digest() behind years", x.digest(), before);
