@@ -34,21 +34,14 @@ public final class DriftTest {
         }
     }
 
-    private static FrozenIn alone(int kind, int cell, int way, int strength) {
-        FrozenIn x = new FrozenIn();
-        Due.windAlways(x, way, strength);
-        x.floe(kind, cell, 0);
-        return x;
-    }
-
     private static void plainDrifts() {
-        path(alone(0, 0, 0, 1), "PLAIN", 0, 1, 2, 3, 4, 5, 5);
-        path(alone(0, 0, 0, 3), "PLAIN, 3", 0, 1, 2, 3, 4, 5, 5);
-        path(alone(0, 0, 1, 2), "PLAIN, next rows", 0, 6, 12, 18, 24, 30, 30);
-        path(alone(0, 35, 2, 1), "PLAIN, columns ahead", 35, 34, 33, 32, 31, 30, 30);
-        path(alone(0, 35, 3, 1), "PLAIN, rows ahead", 35, 29, 23, 17, 11, 5, 5);
-        path(alone(0, 14, 0, 0), "PLAIN, calm", 14, 14, 14);
-        FrozenIn x = alone(0, 0, 0, 0);
+        path(Due.alone(0, 0, 0, 1), "PLAIN", 0, 1, 2, 3, 4, 5, 5);
+        path(Due.alone(0, 0, 0, 3), "PLAIN, 3", 0, 1, 2, 3, 4, 5, 5);
+        path(Due.alone(0, 0, 1, 2), "PLAIN, next rows", 0, 6, 12, 18, 24, 30, 30);
+        path(Due.alone(0, 35, 2, 1), "PLAIN, columns ahead", 35, 34, 33, 32, 31, 30, 30);
+        path(Due.alone(0, 35, 3, 1), "PLAIN, rows ahead", 35, 29, 23, 17, 11, 5, 5);
+        path(Due.alone(0, 14, 0, 0), "PLAIN, calm", 14, 14, 14);
+        FrozenIn x = Due.alone(0, 0, 0, 0);
         x.wind(1, 1, 1);
         x.wind(3, 0, 2);
         path(x, "PLAIN, by months", 0, 0, 6, 6, 7, 7);
@@ -57,47 +50,47 @@ public final class DriftTest {
     }
 
     private static void leadDrifts() {
-        path(alone(1, 0, 0, 3), "LEAD, 3", 0, 2, 4, 5, 5);
-        path(alone(1, 0, 0, 2), "LEAD, 2", 0, 1, 2, 3, 4, 5, 5);
-        path(alone(1, 0, 0, 1), "LEAD, 1", 0, 1, 2);
-        path(alone(1, 7, 0, 0), "LEAD, calm", 7, 7, 7);
+        path(Due.alone(1, 0, 0, 3), "LEAD, 3", 0, 2, 4, 5, 5);
+        path(Due.alone(1, 0, 0, 2), "LEAD, 2", 0, 1, 2, 3, 4, 5, 5);
+        path(Due.alone(1, 0, 0, 1), "LEAD, 1", 0, 1, 2);
+        path(Due.alone(1, 7, 0, 0), "LEAD, calm", 7, 7, 7);
     }
 
     private static void ringDrifts() {
-        path(alone(2, 0, 0, 1), "RING", 0, 1, 7, 8, 14, 15);
-        path(alone(2, 35, 3, 3), "RING, rows ahead", 35, 29, 29, 23, 23);
-        path(alone(2, 18, 3, 3), "RING, rows ahead, then next column", 18, 12, 13, 7, 8);
-        path(alone(2, 7, 1, 0), "RING, calm", 7, 7, 7);
+        path(Due.alone(2, 0, 0, 1), "RING", 0, 1, 7, 8, 14, 15);
+        path(Due.alone(2, 35, 3, 3), "RING, rows ahead", 35, 29, 29, 23, 23);
+        path(Due.alone(2, 18, 3, 3), "RING, rows ahead, then next column", 18, 12, 13, 7, 8);
+        path(Due.alone(2, 7, 1, 0), "RING, calm", 7, 7, 7);
     }
 
     private static void shoalDrifts() {
-        path(alone(3, 0, 0, 1), "SHOAL, column 0", 0, 0, 0);
-        path(alone(3, 1, 0, 1), "SHOAL, column 1", 1, 1, 1);
-        path(alone(3, 2, 0, 1), "SHOAL, column 2", 2, 3, 4, 5, 5);
-        path(alone(3, 0, 0, 2), "SHOAL, 2", 0, 1, 2, 3);
-        path(alone(3, 0, 0, 3), "SHOAL, 3", 0, 1, 2, 3);
-        path(alone(3, 3, 2, 1), "SHOAL, columns ahead", 3, 2, 1, 1);
+        path(Due.alone(3, 0, 0, 1), "SHOAL, column 0", 0, 0, 0);
+        path(Due.alone(3, 1, 0, 1), "SHOAL, column 1", 1, 1, 1);
+        path(Due.alone(3, 2, 0, 1), "SHOAL, column 2", 2, 3, 4, 5, 5);
+        path(Due.alone(3, 0, 0, 2), "SHOAL, 2", 0, 1, 2, 3);
+        path(Due.alone(3, 0, 0, 3), "SHOAL, 3", 0, 1, 2, 3);
+        path(Due.alone(3, 3, 2, 1), "SHOAL, columns ahead", 3, 2, 1, 1);
     }
 
     private static void backDrifts() {
-        path(alone(4, 3, 0, 1), "BACK", 3, 2, 8, 9, 3, 4, 10, 9);
-        path(alone(4, 0, 1, 3), "BACK, next rows", 0, 0, 0, 6, 7, 13, 12);
+        path(Due.alone(4, 3, 0, 1), "BACK", 3, 2, 8, 9, 3, 4, 10, 9);
+        path(Due.alone(4, 0, 1, 3), "BACK, next rows", 0, 0, 0, 6, 7, 13, 12);
     }
 
     private static void splitDrifts() {
-        path(alone(5, 0, 0, 3), "SPLIT, 3", 0, 2, 4, 5);
-        path(alone(5, 0, 0, 1), "SPLIT, 1", 0, 1, 2, 3, 3);
-        path(alone(5, 3, 0, 0), "SPLIT, calm", 3, 3);
-        path(alone(5, 3, 0, 3), "SPLIT, 3, column 3", 3, 4, 5);
-        path(alone(5, 2, 0, 2), "SPLIT, 2", 2, 3, 3);
+        path(Due.alone(5, 0, 0, 3), "SPLIT, 3", 0, 2, 4, 5);
+        path(Due.alone(5, 0, 0, 1), "SPLIT, 1", 0, 1, 2, 3, 3);
+        path(Due.alone(5, 3, 0, 0), "SPLIT, calm", 3, 3);
+        path(Due.alone(5, 3, 0, 3), "SPLIT, 3, column 3", 3, 4, 5);
+        path(Due.alone(5, 2, 0, 2), "SPLIT, 2", 2, 3, 3);
     }
 
     private static void allStayAtTheEdges() {
         int[] corners = {5, 30, 0, 0};
         int[] nearCorners = {4, 24, 1, 6};
         for (int way = 0; way < 4; way++) {
-            Due.same(13, "then(0, 1), at the edge, WAY " + way, alone(1, corners[way], way, 3).then(0, 1), corners[way]);
-            Due.same(13, "then(0, 1), near the edge, WAY " + way, alone(1, nearCorners[way], way, 3).then(0, 1), corners[way]);
+            Due.same(13, "then(0, 1), at the edge, WAY " + way, Due.alone(1, corners[way], way, 3).then(0, 1), corners[way]);
+            Due.same(13, "then(0, 1), near the edge, WAY " + way, Due.alone(1, nearCorners[way], way, 3).then(0, 1), corners[way]);
         }
     }
 
@@ -113,7 +106,7 @@ public final class DriftTest {
     }
 
     private static void thenRefused() {
-        FrozenIn x = alone(0, 0, 0, 1);
+        FrozenIn x = Due.alone(0, 0, 0, 1);
         for (int f : Due.outside(0, 0)) {
             Due.same(13, "then(" + f + ", 0)", x.then(f, 0), FrozenIn.BAD);
             Due.same(14, "out(" + f + ")", x.out(f), FrozenIn.BAD);
@@ -127,12 +120,12 @@ public final class DriftTest {
     }
 
     private static void outFirst() {
-        Due.same(14, "out(0) in column 5", alone(0, 35, 0, 1).out(0), 0);
-        Due.same(14, "out(0) in column 4", alone(0, 4, 0, 1).out(0), 1);
-        Due.same(14, "out(0) in column 0", alone(0, 0, 0, 1).out(0), 5);
-        Due.same(14, "out(0), calm", alone(0, 4, 0, 0).out(0), FrozenIn.NONE);
-        Due.same(14, "out(0), back", alone(0, 4, 2, 1).out(0), FrozenIn.NONE);
-        FrozenIn x = alone(0, 3, 2, 1);
+        Due.same(14, "out(0) in column 5", Due.alone(0, 35, 0, 1).out(0), 0);
+        Due.same(14, "out(0) in column 4", Due.alone(0, 4, 0, 1).out(0), 1);
+        Due.same(14, "out(0) in column 0", Due.alone(0, 0, 0, 1).out(0), 5);
+        Due.same(14, "out(0), calm", Due.alone(0, 4, 0, 0).out(0), FrozenIn.NONE);
+        Due.same(14, "out(0), back", Due.alone(0, 4, 2, 1).out(0), FrozenIn.NONE);
+        FrozenIn x = Due.alone(0, 3, 2, 1);
         x.wind(0, 0, 1);
         x.wind(1, 0, 1);
         Due.same(14, "out(0): out once, and back", x.out(0), 2);
@@ -141,7 +134,7 @@ public final class DriftTest {
     }
 
     private static void outAtSixty() {
-        FrozenIn x = alone(0, 0, 0, 0);
+        FrozenIn x = Due.alone(0, 0, 0, 0);
         x.wind(11, 0, 1);
         Due.same(14, "out(0): once a year", x.out(0), 60);
         Due.same(15, "need(0)", x.need(0), 60);
@@ -176,7 +169,7 @@ public final class DriftTest {
         x.month(2);
         Due.same(15, "need(1), two months nearer", x.need(1), 0);
         Due.same(15, "need(0), two months nearer", x.need(0), 3);
-        Due.same(15, "need(0), calm", alone(0, 0, 0, 0).need(0), FrozenIn.NONE);
+        Due.same(15, "need(0), calm", Due.alone(0, 0, 0, 0).need(0), FrozenIn.NONE);
     }
 
     private static void entered() {
@@ -248,7 +241,7 @@ public final class DriftTest {
     }
 
     private static void nearestRefused() {
-        FrozenIn x = alone(0, 0, 0, 1);
+        FrozenIn x = Due.alone(0, 0, 0, 1);
         x.floe(0, 1, 0);
         for (int f : Due.outside(0, 1)) {
             Due.same(17, "nearest(" + f + ", 0, 0)", x.nearest(f, 0, 0), FrozenIn.BAD);
@@ -265,27 +258,27 @@ public final class DriftTest {
     }
 
     private static void dogsAndBack() {
-        dogs(alone(0, 14, 0, 0), 1, 1);
-        dogs(alone(0, 13, 0, 0), 2, 1);
-        dogs(alone(0, 12, 0, 0), 2, 1);
-        dogs(alone(0, 11, 0, 0), 4, 2);
-        dogs(alone(0, 0, 0, 0), 4, 2);
-        dogs(alone(0, 35, 0, 0), 6, 3);
-        dogs(alone(0, 34, 0, 0), 6, 3);
-        dogs(alone(0, 13, 0, 1), 1, 1);
-        dogs(alone(0, 14, 0, 1), 2, 1);
-        dogs(alone(1, 14, 0, 3), 3, 1);
-        dogs(alone(1, 35, 2, 3), 6, 3);
-        dogs(alone(1, 35, 3, 3), 6, 3);
-        dogs(alone(1, 17, 2, 3), 3, 2);
-        dogs(alone(1, 12, 0, 3), 1, 1);
-        FrozenIn x = alone(0, 8, 1, 1);
+        dogs(Due.alone(0, 14, 0, 0), 1, 1);
+        dogs(Due.alone(0, 13, 0, 0), 2, 1);
+        dogs(Due.alone(0, 12, 0, 0), 2, 1);
+        dogs(Due.alone(0, 11, 0, 0), 4, 2);
+        dogs(Due.alone(0, 0, 0, 0), 4, 2);
+        dogs(Due.alone(0, 35, 0, 0), 6, 3);
+        dogs(Due.alone(0, 34, 0, 0), 6, 3);
+        dogs(Due.alone(0, 13, 0, 1), 1, 1);
+        dogs(Due.alone(0, 14, 0, 1), 2, 1);
+        dogs(Due.alone(1, 14, 0, 3), 3, 1);
+        dogs(Due.alone(1, 35, 2, 3), 6, 3);
+        dogs(Due.alone(1, 35, 3, 3), 6, 3);
+        dogs(Due.alone(1, 17, 2, 3), 3, 2);
+        dogs(Due.alone(1, 12, 0, 3), 1, 1);
+        FrozenIn x = Due.alone(0, 8, 1, 1);
         x.month(1);
         dogs(x, 2, 1);
     }
 
     private static void dogsRefused() {
-        FrozenIn x = alone(0, 0, 0, 1);
+        FrozenIn x = Due.alone(0, 0, 0, 1);
         for (int f : Due.outside(0, 0)) {
             Due.same(18, "dogs(" + f + ", 0)", x.dogs(f, 0), FrozenIn.BAD);
         }
@@ -296,7 +289,7 @@ public final class DriftTest {
     }
 
     private static void nothingIsChanged() {
-        FrozenIn x = alone(4, 3, 0, 1);
+        FrozenIn x = Due.alone(4, 3, 0, 1);
         x.floe(1, 30, 7);
         x.month(1);
         long before = x.digest();

@@ -1,10 +1,11 @@
 import java.util.Arrays;
 import java.util.Random;
 
-/** Random runs of 512 calls, with numbers as told and not: the class answers as the model does. */
+/** Random runs, with numbers as told and not: the class answers as the model does. */
 public final class ModelTest {
-    private static final int RUNS = 400;
-    private static final int CALLS = 512;
+    private static final int RUNS = 800;
+    /** Behind each of these the digest is asked too, so that one object answers the 512 calls it is promised for. */
+    private static final int CALLS = 256;
 
     private static final int[] EXTREMES = {Integer.MIN_VALUE, Integer.MAX_VALUE, -2, -1, 128, 1000000};
 
@@ -90,7 +91,7 @@ public final class ModelTest {
             }
         }
         int calls = 0;
-        if (random.nextInt(8) != 0) {
+        if (most > 1 && random.nextInt(8) != 0) {
             both(run, x, model, "clear", new int[0]);
             calls++;
         }

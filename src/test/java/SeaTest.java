@@ -375,7 +375,7 @@ public final class SeaTest {
         int[] due = {-160, -160, -159, -160, -160, -160};
         for (int i = 0; i < ends.length; i++) {
             String text = " ".repeat(150 - ends[i].length()) + ends[i];
-            Due.same(7, "read() of 150 bytes that end with «" + ends[i] + "»", Due.read(x, text), due[i]);
+            Due.same(7, "read() of 150 bytes that end with «" + ends[i] + "»", Due.read(new FrozenIn(), text), due[i]);
         }
     }
 
